@@ -998,8 +998,6 @@ public final class ChangeFeed {
 
         boolean takeOrder() {
             letter = signHere();
-            first = 0;
-            second = 0;
             switch (letter) {
                 case 'h':
                 case 'n':

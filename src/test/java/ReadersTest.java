@@ -4,6 +4,7 @@ public final class ReadersTest {
 
     public static void main(String[] args) {
         reader();
+        readerWithAFormerNumber();
         read();
         readAnEmptyFeed();
         readPastWhatWent();
@@ -36,14 +37,17 @@ public final class ReadersTest {
         DUE.is("8: undos", feed.count(12), 6);
         DUE.is("8: the seventh", feed.reader(), ChangeFeed.TOO_MANY);
         DUE.is("8: readers", feed.count(6), 6);
-        ChangeFeed again = withReader();
+    }
+
+    private static void readerWithAFormerNumber() {
+        ChangeFeed again = new ChangeFeed();
+        again.save(0);
+        again.reader();
         again.set(0, 1);
         again.read(0, 1);
         again.confirm(0);
-        for (int i = 0; i < 4; i++) {
-            again.undo();
-        }
-        DUE.is("8: after undo", again.reader(), 0);
+        again.restore(0);
+        DUE.is("8: after restore", again.reader(), 0);
         DUE.is("8: nothing of the former one", again.ofReader(0, 0) + again.ofReader(0, 1) + again.ofReader(0, 4), 0);
         DUE.is("8: no view of the former one", again.view(0, 0), ChangeFeed.NONE);
         again.goBack(0);

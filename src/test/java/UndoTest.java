@@ -93,6 +93,8 @@ public final class UndoTest {
             feed.set(0, i);
             DUE.is("28: undos", feed.count(12), Math.min(i + 1, 6));
         }
+        DUE.is("28: an error amid a full history", feed.remove(5), ChangeFeed.NOT_POSSIBLE);
+        DUE.is("28: drops nothing", feed.count(12), 6);
         for (int left = 5; left >= 0; left--) {
             DUE.is("28: undo", feed.undo(), left);
             DUE.is("28: the value before", feed.table(0), left + 2);

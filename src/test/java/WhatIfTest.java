@@ -10,6 +10,7 @@ public final class WhatIfTest {
         shortestByReadingOn();
         shortestBySnapshots();
         shortestOfALateReader();
+        shortestByTheOldestSnapshot();
         shortestWrongInputs();
         gentlest();
         gentlestOfRemovals();
@@ -152,6 +153,27 @@ public final class WhatIfTest {
         DUE.is("22: the entries of beginning anew", feed.shortest(0, 1), 1);
     }
 
+    private static void shortestByTheOldestSnapshot() {
+        ChangeFeed feed = new ChangeFeed();
+        feed.turn(ChangeFeed.SIZE, 1);
+        feed.turn(ChangeFeed.GRACE, 0);
+        feed.reader();
+        feed.snapshot();
+        feed.set(0, 1);
+        feed.set(1, 1);
+        feed.read(0, 1);
+        feed.snapshot();
+        feed.snapshot();
+        feed.snapshot();
+        feed.remove(0);
+        feed.pass(1);
+        feed.thin();
+        DUE.is("22: the snapshot 3 alone would not be late", feed.shortest(0, 0), 4);
+        DUE.is("22: its entries", feed.shortest(0, 1), 1);
+        DUE.is("22: as the load says", feed.load(0, 2), ChangeFeed.NOT_POSSIBLE);
+        DUE.is("22: and that of 3", feed.load(0, 3), 0);
+    }
+
     private static void shortestWrongInputs() {
         ChangeFeed feed = new ChangeFeed();
         feed.reader();
@@ -201,5 +223,13 @@ public final class WhatIfTest {
         feed.turn(ChangeFeed.GRACE, 31);
         DUE.is("23: the set GRACE does", feed.gentlest(), 1);
         DUE.is("23: nothing went", feed.count(5), 1);
+        ChangeFeed two = new ChangeFeed();
+        two.turn(ChangeFeed.SIZE, 1);
+        two.set(0, 1);
+        two.set(1, 1);
+        two.remove(0);
+        two.thin();
+        two.pass(31);
+        DUE.is("23: size 2 keeps the removal open", two.gentlest(), 2);
     }
 }
