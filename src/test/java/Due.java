@@ -1,11 +1,25 @@
-/** Compares answers with the ones that are due, and tells the wrong ones. */
+import java.util.function.IntSupplier;
+
+/** Compares answers with the ones that are due, and tells the wrong ones by the sentence that they break. */
 final class Due {
+    private static final int TOLD_AT_MOST = 20;
+
     private final String test;
+    private String sentence = "";
     private int right = 0;
     private int wrong = 0;
 
     Due(String test) {
         this.test = test;
+    }
+
+    /** What is compared from now on holds up this sentence. */
+    void by(String newSentence) {
+        sentence = newSentence;
+    }
+
+    int compared() {
+        return right + wrong;
     }
 
     void is(String what, long got, long want) {
@@ -14,8 +28,8 @@ final class Due {
             return;
         }
         wrong++;
-        if (wrong <= 20) {
-            System.out.println(test + ": " + what + " answered " + got + ", due is " + want);
+        if (wrong <= TOLD_AT_MOST) {
+            System.out.println(test + ": " + sentence + what + " answered " + got + ", due is " + want);
         }
     }
 
@@ -23,46 +37,32 @@ final class Due {
         is(what, holds ? 1 : 0, 1);
     }
 
+    /** The call gives this error, and nothing at all is another thing behind it. */
+    void refuses(String what, ChangeFeed feed, IntSupplier call, int error) {
+        String before = Feeds.everything(feed);
+        is(what, call.getAsInt(), error);
+        holds("nothing changes by: " + what, Feeds.everything(feed).equals(before));
+    }
+
+    /** The call records one state, and undo brings that one back. */
+    void isAChange(String what, ChangeFeed feed, IntSupplier call) {
+        String before = Feeds.told(feed);
+        int undos = feed.count(12);
+        holds("no error by: " + what, call.getAsInt() >= 0);
+        is("undos behind: " + what, feed.count(12), Math.min(undos + 1, 6));
+        is("undo of: " + what, feed.undo(), Math.min(undos, 5));
+        holds("as it was before: " + what, Feeds.told(feed).equals(before));
+    }
+
+    /** The call answers this, and nothing at all is another thing behind it. */
+    void onlyTells(String what, ChangeFeed feed, IntSupplier call, int want) {
+        refuses(what, feed, call, want);
+    }
+
     void end() {
         System.out.println(test + ": " + right + " answers right, " + wrong + " wrong");
         if (wrong != 0 || right == 0) {
             System.exit(1);
         }
-    }
-
-    /** Up to eight characters as put() takes them. */
-    static long packed(String characters) {
-        long packed = 0;
-        for (int i = 0; i < characters.length(); i++) {
-            packed = packed << 8 | characters.charAt(i);
-        }
-        return packed;
-    }
-
-    static void write(ChangeFeed feed, String text) {
-        for (int i = 0; i < text.length(); i += 8) {
-            feed.put(packed(text.substring(i, Math.min(i + 8, text.length()))));
-        }
-    }
-
-    static int faultOf(String text) {
-        ChangeFeed feed = new ChangeFeed();
-        write(feed, text);
-        return feed.fault();
-    }
-
-    static int carriedOut(ChangeFeed feed, String text) {
-        feed.wipe();
-        write(feed, text);
-        return feed.carryOut();
-    }
-
-    static int[] wrongNumbers(int... more) {
-        int[] wrong = new int[more.length + 3];
-        wrong[0] = -1;
-        wrong[1] = Integer.MIN_VALUE;
-        wrong[2] = Integer.MAX_VALUE;
-        System.arraycopy(more, 0, wrong, 3, more.length);
-        return wrong;
     }
 }

@@ -583,7 +583,7 @@ public final class ModelTest {
         }
         boolean needsMark = tidy && !pad.isEmpty() && fault(pad) == -6;
         String piece = needsMark ? ";" : PIECES[below(PIECES.length)];
-        return Due.packed(piece.length() <= 8 ? piece : piece.substring(0, 8));
+        return Feeds.packed(piece.length() <= 8 ? piece : piece.substring(0, 8));
     }
 
     private void run(Due due, int run) {

@@ -1,4 +1,4 @@
-/** Promises 1 to 7: a new object, and what changes the table. */
+/** Promises 1 to 7, sentence by sentence: a new object, and what changes the table. */
 public final class TableTest {
     private static final Due DUE = new Due("TableTest");
 
@@ -6,282 +6,389 @@ public final class TableTest {
         newObject();
         turn();
         set();
-        setInAFullFeed();
         remove();
-        removeInAFullFeed();
         pass();
-        thinBySegments();
-        thinByGrace();
-        floorNeverSinks();
-        floorIsLiftedByRemovalsAlone();
-        thinWithAnotherSize();
+        thin();
         snapshot();
-        snapshotIsACopy();
         DUE.end();
     }
 
     private static void newObject() {
-        ChangeFeed feed = new ChangeFeed();
-        int[] due = {0, 0, 0, 0, 0, 0, 0, 0, 0, 5, 30, 0, 0};
-        for (int what = 0; what < due.length; what++) {
-            DUE.is("1: count(" + what + ")", feed.count(what), due[what]);
-        }
-        for (int key = 0; key < 12; key++) {
-            DUE.is("1: table(" + key + ")", feed.table(key), ChangeFeed.NONE);
-        }
-        DUE.is("1: entry", feed.entry(0, 0), ChangeFeed.NO_SUCH);
-        DUE.is("1: reader", feed.ofReader(0, 0), ChangeFeed.NO_SUCH);
-        DUE.is("1: snapshot", feed.ofSnapshot(0, 0), ChangeFeed.NO_SUCH);
-        DUE.is("1: undo", feed.undo(), ChangeFeed.NOT_POSSIBLE);
-        DUE.is("1: slot 0", feed.restore(0), ChangeFeed.NOT_POSSIBLE);
-        DUE.is("1: slot 1", feed.restore(1), ChangeFeed.NOT_POSSIBLE);
-        DUE.is("1: fault", feed.fault(), 0);
-        ChangeFeed other = new ChangeFeed();
-        other.set(0, 1);
-        other.turn(0, 9);
-        DUE.is("1: objects are apart", feed.count(0) + feed.table(0) + feed.count(9), -1);
+        Section made = new Section(DUE, "Promise 1: A new object");
+        made.says("Creates an empty table", () -> {
+            ChangeFeed feed = new ChangeFeed();
+            for (int key = 0; key < 12; key++) {
+                DUE.is("key " + key, feed.table(key), ChangeFeed.NONE);
+            }
+            DUE.is("keys with a value", feed.count(2), 0);
+        });
+        made.says("and an empty feed.", () -> {
+            ChangeFeed feed = new ChangeFeed();
+            int[] due = {0, 0, 0, 0, 0, 0, 0, 0, 0, 5, 30, 0, 0};
+            for (int what = 0; what < due.length; what++) {
+                DUE.is("count(" + what + ")", feed.count(what), due[what]);
+            }
+            DUE.is("no entry", feed.entry(0, 0), ChangeFeed.NO_SUCH);
+            DUE.is("no reader", feed.ofReader(0, 0), ChangeFeed.NO_SUCH);
+            DUE.is("no snapshot", feed.ofSnapshot(0, 0), ChangeFeed.NO_SUCH);
+            DUE.is("nothing to undo", feed.undo(), ChangeFeed.NOT_POSSIBLE);
+            DUE.is("nothing in slot 0", feed.restore(0), ChangeFeed.NOT_POSSIBLE);
+            DUE.is("nothing in slot 1", feed.restore(1), ChangeFeed.NOT_POSSIBLE);
+            DUE.is("an empty pad", feed.fault(), 0);
+            ChangeFeed other = Feeds.started();
+            other.save(0);
+            other.put('h');
+            DUE.holds("objects are apart", Feeds.everything(feed).equals(Feeds.everything(new ChangeFeed())));
+            DUE.is("their slots, too", feed.restore(0), ChangeFeed.NOT_POSSIBLE);
+        });
+        made.end();
     }
 
     private static void turn() {
-        ChangeFeed feed = new ChangeFeed();
-        DUE.is("2: first size", feed.turn(ChangeFeed.SIZE, 1), 5);
-        DUE.is("2: lowest size", feed.turn(ChangeFeed.SIZE, 20), 1);
-        DUE.is("2: highest size", feed.turn(ChangeFeed.SIZE, 20), 20);
-        DUE.is("2: first grace", feed.turn(ChangeFeed.GRACE, 0), 30);
-        DUE.is("2: lowest grace", feed.turn(ChangeFeed.GRACE, 999), 0);
-        DUE.is("2: highest grace", feed.turn(ChangeFeed.GRACE, 21), 999);
-        DUE.is("2: undos", feed.count(12), 6);
-        for (int wrong : Due.wrongNumbers(0, 21)) {
-            DUE.is("2: size " + wrong, feed.turn(ChangeFeed.SIZE, wrong), ChangeFeed.BAD_VALUE);
-        }
-        for (int wrong : Due.wrongNumbers(1000)) {
-            DUE.is("2: grace " + wrong, feed.turn(ChangeFeed.GRACE, wrong), ChangeFeed.BAD_VALUE);
-        }
-        for (int wrong : Due.wrongNumbers(2)) {
-            DUE.is("2: setting " + wrong, feed.turn(wrong, 5), ChangeFeed.BAD_VALUE);
-        }
-        DUE.is("2: size", feed.count(9), 20);
-        DUE.is("2: grace", feed.count(10), 21);
-        ChangeFeed quiet = new ChangeFeed();
-        quiet.turn(0, 0);
-        DUE.is("2: an error records nothing", quiet.count(12), 0);
-        quiet.turn(0, 5);
-        DUE.is("2: the same value records", quiet.count(12), 1);
+        Section turn = new Section(DUE, "Promise 2: turn");
+        turn.says("Changes a setting.", () -> {
+            ChangeFeed feed = new ChangeFeed();
+            feed.turn(ChangeFeed.SIZE, 7);
+            DUE.is("the size", feed.count(9), 7);
+            DUE.is("the grace stays", feed.count(10), 30);
+            feed.turn(ChangeFeed.GRACE, 8);
+            DUE.is("the grace", feed.count(10), 8);
+            DUE.is("the size stays", feed.count(9), 7);
+        });
+        turn.says("This is a change.", () -> {
+            ChangeFeed feed = new ChangeFeed();
+            DUE.isAChange("another size", feed, () -> feed.turn(ChangeFeed.SIZE, 9));
+            DUE.isAChange("the same size", feed, () -> feed.turn(ChangeFeed.SIZE, 5));
+            DUE.isAChange("the grace 0", feed, () -> feed.turn(ChangeFeed.GRACE, 0));
+            feed.turn(ChangeFeed.GRACE, 0);
+            DUE.isAChange("from the grace 0", feed, () -> feed.turn(ChangeFeed.GRACE, 1));
+        });
+        turn.says("Returns the previous value", () -> {
+            ChangeFeed feed = new ChangeFeed();
+            DUE.is("the first size", feed.turn(ChangeFeed.SIZE, 1), 5);
+            DUE.is("the lowest size", feed.turn(ChangeFeed.SIZE, 20), 1);
+            DUE.is("the highest size", feed.turn(ChangeFeed.SIZE, 20), 20);
+            DUE.is("the first grace", feed.turn(ChangeFeed.GRACE, 0), 30);
+            DUE.is("the lowest grace", feed.turn(ChangeFeed.GRACE, 999), 0);
+            DUE.is("the highest grace", feed.turn(ChangeFeed.GRACE, 999), 999);
+        });
+        turn.says("BAD_VALUE if there is no such setting", () -> {
+            ChangeFeed feed = new ChangeFeed();
+            for (int wrong : Feeds.wrongNumbers(2, 3)) {
+                DUE.refuses("setting " + wrong, feed, () -> feed.turn(wrong, 7), ChangeFeed.BAD_VALUE);
+            }
+        });
+        turn.says("or the value is out of its range.", () -> {
+            ChangeFeed feed = new ChangeFeed();
+            for (int wrong : Feeds.wrongNumbers(0, 21, 999)) {
+                DUE.refuses("size " + wrong, feed, () -> feed.turn(ChangeFeed.SIZE, wrong), ChangeFeed.BAD_VALUE);
+            }
+            for (int wrong : Feeds.wrongNumbers(1000)) {
+                DUE.refuses("grace " + wrong, feed, () -> feed.turn(ChangeFeed.GRACE, wrong), ChangeFeed.BAD_VALUE);
+            }
+            DUE.is("a grace that would be no size", feed.turn(ChangeFeed.GRACE, 21), 30);
+            DUE.is("another one", feed.turn(ChangeFeed.GRACE, 0), 21);
+        });
+        turn.end();
     }
 
     private static void set() {
-        ChangeFeed feed = new ChangeFeed();
-        DUE.is("3: number", feed.set(0, 0), 0);
-        feed.pass(7);
-        DUE.is("3: next number", feed.set(11, 999), 1);
-        DUE.is("3: the same value", feed.set(11, 999), 2);
-        DUE.is("3: lowest value", feed.table(0), 0);
-        DUE.is("3: highest value", feed.table(11), 999);
-        DUE.is("3: entries", feed.count(0), 3);
-        DUE.is("3: key of the entry", feed.entry(1, 1), 11);
-        DUE.is("3: value of the entry", feed.entry(1, 2), 999);
-        DUE.is("3: minute of the entry", feed.entry(1, 3), 7);
-        DUE.is("3: undos", feed.count(12), 4);
-        for (int wrong : Due.wrongNumbers(12)) {
-            DUE.is("3: key " + wrong, feed.set(wrong, 5), ChangeFeed.NO_SUCH);
-            DUE.is("3: key ahead of value " + wrong, feed.set(wrong, -1), ChangeFeed.NO_SUCH);
-        }
-        for (int wrong : Due.wrongNumbers(1000)) {
-            DUE.is("3: value " + wrong, feed.set(0, wrong), ChangeFeed.BAD_VALUE);
-        }
-        DUE.is("3: errors change nothing", feed.count(0) * 100 + feed.count(12), 304);
+        Section set = new Section(DUE, "Promise 3: set");
+        set.says("Sets a key to a value", () -> {
+            ChangeFeed feed = new ChangeFeed();
+            for (int key = 0; key < 12; key++) {
+                feed.set(key, 10 * key + 1);
+                DUE.is("keys with a value", feed.count(2), key + 1);
+            }
+            feed.set(4, 7);
+            for (int key = 0; key < 12; key++) {
+                DUE.is("key " + key, feed.table(key), key == 4 ? 7 : 10 * key + 1);
+            }
+            DUE.is("no minute passes", feed.count(3), 0);
+        });
+        set.says("(also to the one that it has)", () -> {
+            ChangeFeed feed = new ChangeFeed();
+            feed.set(3, 8);
+            DUE.is("again", feed.set(3, 8), 1);
+            DUE.is("it has it", feed.table(3), 8);
+            DUE.is("two entries", feed.count(0), 2);
+            DUE.is("the second one's value", feed.entry(1, 2), 8);
+        });
+        set.says(", and an entry comes.", () -> {
+            ChangeFeed feed = new ChangeFeed();
+            feed.set(5, 50);
+            feed.pass(7);
+            feed.set(6, 60);
+            DUE.is("two entries", feed.count(0), 2);
+            DUE.is("its number", feed.entry(1, 0), 1);
+            DUE.is("its key", feed.entry(1, 1), 6);
+            DUE.is("its value", feed.entry(1, 2), 60);
+            DUE.is("its minute", feed.entry(1, 3), 7);
+            DUE.is("the one before it", feed.entry(0, 1), 5);
+            DUE.is("no third one", feed.entry(2, 0), ChangeFeed.NO_SUCH);
+        });
+        set.says("This is a change.", () -> {
+            ChangeFeed feed = new ChangeFeed();
+            DUE.isAChange("the first entry", feed, () -> feed.set(0, 1));
+            feed.set(0, 1);
+            DUE.isAChange("the same value", feed, () -> feed.set(0, 1));
+        });
+        set.says("`value`: 0 to 999", () -> {
+            ChangeFeed feed = new ChangeFeed();
+            DUE.is("the lowest", feed.set(0, 0), 0);
+            DUE.is("it is a value", feed.table(0), 0);
+            DUE.is("the highest", feed.set(0, 999), 1);
+            DUE.is("it is a value, too", feed.table(0), 999);
+        });
+        set.says("Returns the number of the entry", () -> {
+            ChangeFeed feed = new ChangeFeed();
+            feed.turn(ChangeFeed.SIZE, 1);
+            for (int i = 0; i < 5; i++) {
+                DUE.is("one after the other", feed.set(0, i), i);
+            }
+            feed.thin();
+            DUE.is("on, though one entry is left", feed.set(0, 9), 5);
+        });
+        set.says("NO_SUCH if there is no such key", () -> {
+            ChangeFeed feed = new ChangeFeed();
+            ChangeFeed full = Feeds.full();
+            for (int wrong : Feeds.wrongNumbers(12)) {
+                DUE.refuses("key " + wrong, feed, () -> feed.set(wrong, 5), ChangeFeed.NO_SUCH);
+                DUE.refuses("a bad value, too " + wrong, feed, () -> feed.set(wrong, -1), ChangeFeed.NO_SUCH);
+                DUE.refuses("a full feed, too " + wrong, full, () -> full.set(wrong, 1000), ChangeFeed.NO_SUCH);
+            }
+        });
+        set.says("BAD_VALUE if value is out of range", () -> {
+            ChangeFeed feed = new ChangeFeed();
+            ChangeFeed full = Feeds.full();
+            for (int wrong : Feeds.wrongNumbers(1000)) {
+                DUE.refuses("value " + wrong, feed, () -> feed.set(11, wrong), ChangeFeed.BAD_VALUE);
+                DUE.refuses("a full feed, too " + wrong, full, () -> full.set(0, wrong), ChangeFeed.BAD_VALUE);
+            }
+        });
+        set.says("TOO_MANY if there are 60 entries in the feed.", () -> {
+            ChangeFeed feed = new ChangeFeed();
+            for (int i = 0; i < 60; i++) {
+                DUE.is("entry " + i, feed.set(0, i), i);
+            }
+            DUE.refuses("the 61st", feed, () -> feed.set(0, 5), ChangeFeed.TOO_MANY);
+            DUE.refuses("of another key", feed, () -> feed.set(11, 0), ChangeFeed.TOO_MANY);
+            DUE.is("thinned", feed.thin(), 59);
+            DUE.is("on", feed.set(0, 1), 60);
+        });
+        set.end();
     }
 
-    private static ChangeFeed full() {
+    private static void remove() {
+        Section remove = new Section(DUE, "Promise 4: remove");
+        remove.says("Removes a key", () -> {
+            ChangeFeed feed = new ChangeFeed();
+            for (int key = 0; key < 12; key++) {
+                feed.set(key, key);
+            }
+            for (int key = 0; key < 12; key += 11) {
+                feed.remove(key);
+                DUE.is("key " + key, feed.table(key), ChangeFeed.NONE);
+            }
+            DUE.is("keys with a value", feed.count(2), 10);
+            DUE.is("another key", feed.table(1), 1);
+            feed.set(0, 5);
+            DUE.is("set again", feed.table(0), 5);
+        });
+        remove.says(", and an entry comes.", () -> {
+            ChangeFeed feed = new ChangeFeed();
+            feed.set(3, 30);
+            feed.pass(4);
+            feed.remove(3);
+            DUE.is("two entries", feed.count(0), 2);
+            DUE.is("its number", feed.entry(1, 0), 1);
+            DUE.is("its key", feed.entry(1, 1), 3);
+            DUE.is("no value", feed.entry(1, 2), ChangeFeed.NONE);
+            DUE.is("its minute", feed.entry(1, 3), 4);
+            DUE.is("the one before keeps its value", feed.entry(0, 2), 30);
+        });
+        remove.says("This is a change.", () -> {
+            ChangeFeed feed = new ChangeFeed();
+            feed.set(3, 30);
+            DUE.isAChange("a removal", feed, () -> feed.remove(3));
+        });
+        remove.says("Returns the number of the entry", () -> {
+            ChangeFeed feed = new ChangeFeed();
+            feed.set(0, 1);
+            feed.set(1, 1);
+            DUE.is("behind two", feed.remove(0), 2);
+            DUE.is("behind three", feed.remove(1), 3);
+        });
+        remove.says("NO_SUCH if there is no such key", () -> {
+            ChangeFeed feed = new ChangeFeed();
+            ChangeFeed full = Feeds.full();
+            for (int wrong : Feeds.wrongNumbers(12)) {
+                DUE.refuses("key " + wrong, feed, () -> feed.remove(wrong), ChangeFeed.NO_SUCH);
+                DUE.refuses("a full feed, too " + wrong, full, () -> full.remove(wrong), ChangeFeed.NO_SUCH);
+            }
+        });
+        remove.says("TOO_MANY if there are 60 entries in the feed", () -> {
+            ChangeFeed feed = new ChangeFeed();
+            for (int i = 0; i < 59; i++) {
+                feed.set(i % 2, i);
+            }
+            DUE.is("the 60th", feed.remove(0), 59);
+            DUE.refuses("the 61st", feed, () -> feed.remove(1), ChangeFeed.TOO_MANY);
+            DUE.refuses("a key without a value, too", feed, () -> feed.remove(0), ChangeFeed.TOO_MANY);
+            DUE.refuses("one that was never set, too", feed, () -> feed.remove(7), ChangeFeed.TOO_MANY);
+            feed.thin();
+            DUE.is("thinned", feed.remove(1), 60);
+        });
+        remove.says("NOT_POSSIBLE if the key has no value.", () -> {
+            ChangeFeed feed = new ChangeFeed();
+            DUE.refuses("never set", feed, () -> feed.remove(0), ChangeFeed.NOT_POSSIBLE);
+            feed.set(0, 0);
+            DUE.refuses("another one is set", feed, () -> feed.remove(11), ChangeFeed.NOT_POSSIBLE);
+            DUE.is("0 is a value", feed.remove(0), 1);
+            DUE.refuses("removed", feed, () -> feed.remove(0), ChangeFeed.NOT_POSSIBLE);
+        });
+        remove.end();
+    }
+
+    private static ChangeFeed nearTheLastMinute() {
         ChangeFeed feed = new ChangeFeed();
-        for (int i = 0; i < 60; i++) {
-            DUE.is("3: filling", feed.set(i % 12, i), i);
+        for (int i = 0; i < 100; i++) {
+            feed.pass(999);
         }
         return feed;
     }
 
-    private static void setInAFullFeed() {
-        ChangeFeed feed = full();
-        DUE.is("3: the 61st", feed.set(0, 1), ChangeFeed.TOO_MANY);
-        DUE.is("3: value ahead of the full feed", feed.set(0, 1000), ChangeFeed.BAD_VALUE);
-        DUE.is("3: key ahead of the full feed", feed.set(12, 1000), ChangeFeed.NO_SUCH);
-        DUE.is("3: table stays", feed.table(0), 48);
-        DUE.is("3: thinned", feed.thin(), 48);
-        DUE.is("3: numbers go on", feed.set(0, 1), 60);
-        DUE.is("3: last entry", feed.entry(12, 0), 60);
-    }
-
-    private static void remove() {
-        ChangeFeed feed = new ChangeFeed();
-        DUE.is("4: none yet", feed.remove(3), ChangeFeed.NOT_POSSIBLE);
-        feed.set(3, 0);
-        DUE.is("4: number", feed.remove(3), 1);
-        DUE.is("4: table", feed.table(3), ChangeFeed.NONE);
-        DUE.is("4: entry", feed.entry(1, 2), ChangeFeed.NONE);
-        DUE.is("4: key of the entry", feed.entry(1, 1), 3);
-        DUE.is("4: twice", feed.remove(3), ChangeFeed.NOT_POSSIBLE);
-        DUE.is("4: undos", feed.count(12), 2);
-        for (int wrong : Due.wrongNumbers(12)) {
-            DUE.is("4: key " + wrong, feed.remove(wrong), ChangeFeed.NO_SUCH);
-        }
-    }
-
-    private static void removeInAFullFeed() {
-        ChangeFeed feed = full();
-        DUE.is("4: full", feed.remove(0), ChangeFeed.TOO_MANY);
-        DUE.is("4: key ahead of the full feed", feed.remove(12), ChangeFeed.NO_SUCH);
-        ChangeFeed oneKey = new ChangeFeed();
-        for (int i = 0; i < 60; i++) {
-            oneKey.set(0, i);
-        }
-        DUE.is("4: full ahead of no value", oneKey.remove(1), ChangeFeed.TOO_MANY);
-    }
-
     private static void pass() {
-        ChangeFeed feed = new ChangeFeed();
-        DUE.is("5: 1", feed.pass(1), 1);
-        DUE.is("5: 999", feed.pass(999), 1000);
-        DUE.is("5: undos", feed.count(12), 2);
-        for (int wrong : Due.wrongNumbers(0, 1000)) {
-            DUE.is("5: minutes " + wrong, feed.pass(wrong), ChangeFeed.BAD_VALUE);
-        }
-        for (int i = 2; i <= 99; i++) {
-            DUE.is("5: on", feed.pass(999), 1000 + (i - 1) * 999);
-        }
-        DUE.is("5: far", feed.count(3), 98902);
-        feed.pass(999);
-        DUE.is("5: above the last minute", feed.pass(99), ChangeFeed.TOO_MANY);
-        DUE.is("5: bad ahead of too many", feed.pass(1000), ChangeFeed.BAD_VALUE);
-        DUE.is("5: the last minute", feed.pass(98), 99999);
-        DUE.is("5: beyond it", feed.pass(1), ChangeFeed.TOO_MANY);
-        DUE.is("5: the minute", feed.count(3), 99999);
+        Section pass = new Section(DUE, "Promise 5: pass");
+        pass.says("Lets minutes pass.", () -> {
+            ChangeFeed feed = new ChangeFeed();
+            feed.set(0, 1);
+            feed.pass(5);
+            DUE.is("five", feed.count(3), 5);
+            feed.pass(7);
+            DUE.is("seven more", feed.count(3), 12);
+            DUE.is("entries keep their minute", feed.entry(0, 3), 0);
+            DUE.is("no entry comes", feed.count(0), 1);
+        });
+        pass.says("This is a change.", () -> {
+            ChangeFeed feed = new ChangeFeed();
+            DUE.isAChange("one minute", feed, () -> feed.pass(1));
+        });
+        pass.says("`minutes`: 1 to 999", () -> {
+            DUE.is("the fewest", new ChangeFeed().pass(1), 1);
+            DUE.is("the most", new ChangeFeed().pass(999), 999);
+        });
+        pass.says("Returns the minute then", () -> {
+            ChangeFeed feed = new ChangeFeed();
+            for (int i = 1; i <= 100; i++) {
+                DUE.is("pass " + i, feed.pass(999), 999 * i);
+            }
+        });
+        pass.says("BAD_VALUE if minutes is out of range", () -> {
+            ChangeFeed feed = new ChangeFeed();
+            ChangeFeed late = nearTheLastMinute();
+            late.pass(99);
+            for (int wrong : Feeds.wrongNumbers(0, 1000, 99999)) {
+                DUE.refuses("minutes " + wrong, feed, () -> feed.pass(wrong), ChangeFeed.BAD_VALUE);
+                DUE.refuses("too many, too " + wrong, late, () -> late.pass(wrong), ChangeFeed.BAD_VALUE);
+            }
+        });
+        pass.says("TOO_MANY if it would be above 99999.", () -> {
+            ChangeFeed feed = nearTheLastMinute();
+            DUE.refuses("100000", feed, () -> feed.pass(100), ChangeFeed.TOO_MANY);
+            DUE.refuses("far above it", feed, () -> feed.pass(999), ChangeFeed.TOO_MANY);
+            DUE.is("99999", feed.pass(99), 99999);
+            DUE.refuses("one more", feed, () -> feed.pass(1), ChangeFeed.TOO_MANY);
+        });
+        pass.end();
     }
 
-    private static void thinBySegments() {
-        ChangeFeed feed = new ChangeFeed();
-        feed.turn(ChangeFeed.SIZE, 3);
-        feed.set(0, 1);
-        feed.set(0, 2);
-        DUE.is("6: the open segment stays", feed.thin(), 0);
-        feed.set(1, 3);
-        DUE.is("6: it closes when the next number leaves it", feed.thin(), 1);
-        DUE.is("6: what is left", feed.entry(0, 0), 1);
-        feed.set(0, 4);
-        DUE.is("6: a later entry in the open segment", feed.thin(), 1);
-        DUE.is("6: what is left then", feed.entry(0, 0), 2);
-        DUE.is("6: the last one", feed.entry(1, 0), 3);
-        DUE.is("6: entries that went", feed.count(5), 2);
-        DUE.is("6: the floor", feed.count(4), 0);
-        DUE.is("6: nothing more", feed.thin(), 0);
-        DUE.is("6: undos", feed.count(12), 6);
-    }
-
-    private static void thinByGrace() {
-        ChangeFeed feed = new ChangeFeed();
-        feed.turn(ChangeFeed.SIZE, 1);
-        feed.turn(ChangeFeed.GRACE, 10);
-        feed.set(0, 1);
-        feed.set(1, 1);
-        feed.pass(5);
-        feed.remove(0);
-        feed.pass(10);
-        DUE.is("6: the set one goes", feed.thin(), 1);
-        DUE.is("6: the removal is told", feed.entry(1, 2), ChangeFeed.NONE);
-        DUE.is("6: floor", feed.count(4), 0);
-        feed.pass(1);
-        DUE.is("6: more than GRACE passed", feed.thin(), 1);
-        DUE.is("6: the floor is lifted", feed.count(4), 3);
-        DUE.is("6: a set key stays", feed.entry(0, 1), 1);
-        DUE.is("6: went", feed.count(5), 2);
-        feed.turn(ChangeFeed.GRACE, 0);
-        feed.remove(1);
-        DUE.is("6: GRACE 0 at the same minute", feed.thin(), 1);
-        feed.pass(1);
-        DUE.is("6: GRACE 0 later", feed.thin(), 1);
-        DUE.is("6: floor then", feed.count(4), 4);
-        DUE.is("6: empty", feed.count(0), 0);
-        DUE.is("6: the next number stays", feed.count(1), 4);
-    }
-
-    private static void floorNeverSinks() {
-        ChangeFeed feed = new ChangeFeed();
-        feed.turn(ChangeFeed.SIZE, 1);
-        feed.set(0, 1);
-        feed.set(1, 1);
-        feed.remove(0);
-        feed.pass(20);
-        feed.remove(1);
-        feed.turn(ChangeFeed.GRACE, 20);
-        feed.pass(15);
-        DUE.is("6: the older removal goes", feed.thin(), 3);
-        DUE.is("6: its floor", feed.count(4), 3);
-        feed.pass(6);
-        feed.thin();
-        DUE.is("6: the younger one lifts it", feed.count(4), 4);
-        feed.set(5, 5);
-        feed.set(5, 6);
-        feed.thin();
-        DUE.is("6: it stays", feed.count(4), 4);
-    }
-
-    private static void floorIsLiftedByRemovalsAlone() {
-        ChangeFeed feed = new ChangeFeed();
-        feed.turn(ChangeFeed.SIZE, 1);
-        feed.turn(ChangeFeed.GRACE, 0);
-        feed.set(0, 1);
-        feed.remove(0);
-        feed.set(0, 2);
-        feed.pass(5);
-        DUE.is("6: an old removal with a later entry goes as such", feed.thin(), 2);
-        DUE.is("6: and lifts no floor", feed.count(4), 0);
-        feed.turn(ChangeFeed.SIZE, 5);
-        feed.remove(0);
-        feed.pass(5);
-        DUE.is("6: an old removal in the open segment stays", feed.thin(), 1 - 1);
-        feed.set(1, 1);
-        DUE.is("6: until it closes", feed.thin(), 2);
-        DUE.is("6: and lifts the floor", feed.count(4), 4);
-    }
-
-    private static void thinWithAnotherSize() {
-        ChangeFeed feed = new ChangeFeed();
-        for (int i = 0; i < 10; i++) {
-            feed.set(0, i);
-        }
-        feed.turn(ChangeFeed.SIZE, 20);
-        DUE.is("6: one open segment", feed.thin(), 0);
-        feed.turn(ChangeFeed.SIZE, 4);
-        DUE.is("6: two closed ones", feed.thin(), 8);
-        feed.turn(ChangeFeed.SIZE, 10);
-        DUE.is("6: the size divides the next number", feed.thin(), 1);
+    private static void thin() {
+        Section thin = new Section(DUE, "Promise 6: thin");
+        thin.says("Thins the feed.", () -> {
+            ChangeFeed feed = new ChangeFeed();
+            feed.turn(ChangeFeed.SIZE, 2);
+            feed.set(3, 30);
+            feed.pass(5);
+            feed.set(4, 40);
+            feed.set(3, 31);
+            feed.remove(4);
+            feed.set(5, 50);
+            feed.thin();
+            int[][] left = {{2, 3, 31, 5}, {3, 4, ChangeFeed.NONE, 5}, {4, 5, 50, 5}};
+            DUE.is("entries that are left", feed.count(0), left.length);
+            for (int i = 0; i < left.length; i++) {
+                for (int what = 0; what < 4; what++) {
+                    DUE.is("entry(" + i + ", " + what + ")", feed.entry(i, what), left[i][what]);
+                }
+            }
+            DUE.is("the table stays", feed.table(3), 31);
+            DUE.is("the next number stays", feed.count(1), 5);
+            DUE.is("the minute stays", feed.count(3), 5);
+            DUE.is("entries that went so far", feed.count(5), 2);
+        });
+        thin.says("This is a change.", () -> {
+            ChangeFeed feed = new ChangeFeed();
+            DUE.isAChange("of an empty feed", feed, feed::thin);
+            ChangeFeed late = Feeds.quickToThin();
+            late.set(0, 1);
+            late.remove(0);
+            late.pass(1);
+            DUE.isAChange("of all entries", late, late::thin);
+        });
+        thin.says("Returns how many entries go.", () -> {
+            DUE.is("of an empty feed", new ChangeFeed().thin(), 0);
+            ChangeFeed full = Feeds.full();
+            DUE.is("those with later ones", full.thin(), 48);
+            DUE.is("at once again", full.thin(), 0);
+            ChangeFeed removals = Feeds.quickToThin();
+            removals.set(0, 1);
+            removals.set(1, 1);
+            removals.remove(0);
+            removals.remove(1);
+            removals.pass(1);
+            DUE.is("two with later ones, and two removals", removals.thin(), 4);
+            ChangeFeed same = new ChangeFeed();
+            for (int i = 0; i < 60; i++) {
+                same.set(0, i);
+            }
+            DUE.is("all but one", same.thin(), 59);
+        });
+        thin.end();
     }
 
     private static void snapshot() {
-        ChangeFeed feed = new ChangeFeed();
-        DUE.is("7: of nothing", feed.snapshot(), 0);
-        DUE.is("7: undos", feed.count(12), 1);
-        for (int i = 1; i <= 5; i++) {
-            feed.set(i, i);
-            DUE.is("7: next number", feed.snapshot(), i);
-            DUE.is("7: kept", feed.count(8), Math.min(i + 1, 4));
-        }
-        for (int i = 0; i < 4; i++) {
-            DUE.is("7: the latest one first", feed.ofSnapshot(i, 0), 5 - i);
-            DUE.is("7: its keys", feed.ofSnapshot(i, 1), 5 - i);
-        }
-        DUE.is("7: the fifth one is dropped", feed.ofSnapshot(4, 0), ChangeFeed.NO_SUCH);
-        DUE.is("7: no entry comes", feed.count(0), 5);
-    }
-
-    private static void snapshotIsACopy() {
-        ChangeFeed feed = new ChangeFeed();
-        feed.set(0, 1);
-        feed.snapshot();
-        feed.set(0, 2);
-        feed.set(1, 3);
-        feed.reader();
-        feed.load(0, 0);
-        DUE.is("7: the table as it was", feed.view(0, 0), 1);
-        DUE.is("7: without what came later", feed.view(0, 1), ChangeFeed.NONE);
+        Section snapshot = new Section(DUE, "Promise 7: snapshot");
+        snapshot.says("Makes a snapshot.", () -> {
+            ChangeFeed feed = new ChangeFeed();
+            feed.set(0, 1);
+            feed.snapshot();
+            DUE.is("one is kept", feed.count(8), 1);
+            DUE.is("its number", feed.ofSnapshot(0, 0), 1);
+            DUE.is("its keys", feed.ofSnapshot(0, 1), 1);
+            DUE.is("no entry comes", feed.count(0), 1);
+            DUE.is("the next number stays", feed.count(1), 1);
+        });
+        snapshot.says("This is a change.", () -> {
+            ChangeFeed feed = new ChangeFeed();
+            DUE.isAChange("of an empty table", feed, feed::snapshot);
+            for (int i = 0; i < 4; i++) {
+                feed.set(i, i);
+                feed.snapshot();
+            }
+            DUE.isAChange("one more than are kept", feed, feed::snapshot);
+        });
+        snapshot.says("Returns the next number.", () -> {
+            ChangeFeed feed = new ChangeFeed();
+            feed.turn(ChangeFeed.SIZE, 1);
+            DUE.is("of an empty feed", feed.snapshot(), 0);
+            for (int i = 1; i <= 6; i++) {
+                feed.set(0, i);
+                DUE.is("behind " + i + " entries", feed.snapshot(), i);
+            }
+            feed.thin();
+            DUE.is("thinned", feed.snapshot(), 6);
+        });
+        snapshot.end();
     }
 }

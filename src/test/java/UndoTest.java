@@ -1,201 +1,340 @@
-/** Promises 28 to 30: undo, save, restore. */
+/** Promises 28 to 30, sentence by sentence: undo, save, restore. */
 public final class UndoTest {
     private static final Due DUE = new Due("UndoTest");
 
     public static void main(String[] args) {
-        undoEachChange();
-        undoSixAtMost();
-        undoAfterUndo();
-        undoKeepsPadAndSlots();
-        saveAndRestore();
-        restoreIsAChange();
-        slotsAreCopies();
-        wrongSlots();
+        undo();
+        save();
+        restore();
         DUE.end();
     }
 
-    /** All that can be asked for about the state, in one row. */
-    private static String told(ChangeFeed feed) {
-        StringBuilder told = new StringBuilder();
-        for (int what = 0; what <= 10; what++) {
-            told.append(feed.count(what)).append(' ');
-        }
-        for (int key = 0; key < 12; key++) {
-            told.append(feed.table(key)).append(' ');
-        }
-        for (int i = 0; i < feed.count(0); i++) {
-            for (int what = 0; what < 6; what++) {
-                told.append(feed.entry(i, what)).append(' ');
+    private static void undo() {
+        Section undo = new Section(DUE, "Promise 28: undo");
+        undo.says("Undoes the latest change", () -> {
+            ChangeFeed feed = new ChangeFeed();
+            feed.set(0, 1);
+            feed.set(0, 2);
+            feed.set(0, 3);
+            feed.undo();
+            DUE.is("the third", feed.table(0), 2);
+            feed.set(1, 4);
+            feed.undo();
+            DUE.is("a later one", feed.table(1), ChangeFeed.NONE);
+            DUE.is("the second one stays", feed.table(0), 2);
+            feed.undo();
+            DUE.is("the second", feed.table(0), 1);
+            feed.undo();
+            DUE.is("the first", feed.table(0), ChangeFeed.NONE);
+        });
+        undo.says(": everything except the pad, the slots and the history is as it was before it.", () -> {
+            for (int i = 0; i < Feeds.CHANGES; i++) {
+                int which = i;
+                ChangeFeed feed = Feeds.started();
+                String before = Feeds.told(feed);
+                Feeds.change(feed, which);
+                DUE.holds("the change " + which + " shows", !Feeds.told(feed).equals(before));
+                feed.undo();
+                DUE.holds("the change " + which + " is undone", Feeds.told(feed).equals(before));
+                DUE.isAChange("the change " + which, feed, () -> Feeds.change(feed, which));
             }
-        }
-        for (int i = 0; i < feed.count(6); i++) {
-            for (int what = 0; what < 7; what++) {
-                told.append(feed.ofReader(i, what)).append(' ');
+            ChangeFeed feed = new ChangeFeed();
+            feed.set(0, 1);
+            feed.undo();
+            DUE.is("the next number, too", feed.count(1), 0);
+            DUE.is("so it is given again", feed.set(0, 2), 0);
+        });
+        undo.says("except the pad", () -> {
+            ChangeFeed feed = new ChangeFeed();
+            feed.put('h');
+            feed.set(0, 1);
+            feed.put(';');
+            feed.undo();
+            DUE.is("what was put behind the change", feed.count(11), 2);
+            feed.put('h');
+            feed.carryOut();
+            feed.undo();
+            DUE.is("it stays empty", feed.count(11), 0);
+            DUE.is("with its fault", feed.fault(), 0);
+        });
+        undo.says("the slots", () -> {
+            ChangeFeed feed = new ChangeFeed();
+            feed.set(0, 1);
+            feed.set(0, 2);
+            feed.save(0);
+            feed.undo();
+            feed.undo();
+            DUE.is("what was saved", feed.restore(0), 2);
+            DUE.is("its table", feed.table(0), 2);
+            DUE.is("its next number", feed.count(1), 2);
+        });
+        undo.says("A history of at most 6 states is kept", () -> {
+            ChangeFeed feed = new ChangeFeed();
+            for (int i = 0; i < 20; i++) {
+                DUE.is("behind " + i + " changes", feed.count(12), Math.min(i, 6));
+                feed.set(0, i);
             }
-        }
-        for (int i = 0; i < feed.count(8); i++) {
-            for (int what = 0; what < 3; what++) {
-                told.append(feed.ofSnapshot(i, what)).append(' ');
+            int undone = 0;
+            while (undone < 20 && feed.undo() >= 0) {
+                undone++;
             }
+            DUE.is("undone", undone, 6);
+        });
+        undo.says(": each method that is a change, and returns no error, records the state before it", () -> {
+            for (int i = 0; i < Feeds.CHANGES; i++) {
+                ChangeFeed feed = Feeds.started();
+                feed.undo();
+                DUE.holds("no error by the change " + i, Feeds.change(feed, i) >= 0);
+                DUE.is("it is recorded", feed.count(12), 6);
+            }
+            ChangeFeed feed = Feeds.full();
+            feed.set(12, 0);
+            feed.set(0, 1000);
+            feed.set(0, 0);
+            feed.remove(0);
+            feed.pass(0);
+            feed.read(0, 1);
+            feed.restore(0);
+            DUE.is("errors amid a full history drop nothing", feed.undo(), 5);
+            DUE.is("the latest change is undone", feed.count(0), 59);
+            for (int left = 4; left >= 0; left--) {
+                DUE.is("undone", feed.undo(), left);
+                DUE.is("entries", feed.count(0), 54 + left);
+            }
+        });
+        undo.says("(also if nothing is different then)", () -> {
+            ChangeFeed feed = Feeds.withReader();
+            DUE.isAChange("the same setting", feed, () -> feed.turn(ChangeFeed.SIZE, 5));
+            DUE.isAChange("a thinning of nothing", feed, feed::thin);
+            DUE.isAChange("reading nothing", feed, () -> feed.read(0, 1));
+            DUE.isAChange("confirming the same", feed, () -> feed.confirm(0));
+            DUE.isAChange("going back to the same", feed, () -> feed.goBack(0));
+            DUE.isAChange("beginning anew at the beginning", feed, () -> feed.beginAnew(0));
+            feed.save(0);
+            DUE.isAChange("restoring the same", feed, () -> feed.restore(0));
+        });
+        undo.says("; when one more is recorded, the oldest one is dropped.", () -> {
+            ChangeFeed feed = new ChangeFeed();
+            for (int i = 0; i < 9; i++) {
+                feed.set(0, i);
+            }
+            for (int left = 5; left >= 0; left--) {
+                feed.undo();
+                DUE.is("the value before", feed.table(0), left + 2);
+                DUE.is("the next number before", feed.count(1), left + 3);
+            }
+            DUE.is("no older one", feed.undo(), ChangeFeed.NOT_POSSIBLE);
+            for (int i = 0; i < 7; i++) {
+                feed.pass(1);
+            }
+            for (int i = 0; i < 6; i++) {
+                feed.undo();
+            }
+            DUE.is("again from the oldest one that is kept", feed.count(3), 1);
+        });
+        undo.says("An order of a text records nothing by itself.", () -> {
+            ChangeFeed feed = new ChangeFeed();
+            feed.set(0, 1);
+            Feeds.carriedOut(feed, "p0=2;p0=3;n;r0*1;c0;b0;s;l0@0;x0;t5;h");
+            DUE.is("two changes", feed.count(12), 2);
+            feed.undo();
+            DUE.is("eleven orders are undone at once", feed.table(0), 1);
+            DUE.is("one is left", feed.count(12), 1);
+        });
+        undo.says("Returns how many changes can be undone then", () -> {
+            ChangeFeed feed = new ChangeFeed();
+            for (int i = 0; i < 3; i++) {
+                feed.pass(1);
+            }
+            for (int left = 2; left >= 0; left--) {
+                DUE.is("then", feed.undo(), left);
+                DUE.is("as it is counted", feed.count(12), left);
+            }
+            for (int i = 0; i < 7; i++) {
+                feed.pass(1);
+            }
+            DUE.is("of a full history", feed.undo(), 5);
+        });
+        undo.says("NOT_POSSIBLE if there is none.", () -> {
+            ChangeFeed none = new ChangeFeed();
+            DUE.refuses("at first", none, none::undo, ChangeFeed.NOT_POSSIBLE);
+            none.set(0, -1);
+            none.save(0);
+            none.put('h');
+            DUE.refuses("behind what is no change", none, none::undo, ChangeFeed.NOT_POSSIBLE);
+            none.set(0, 1);
+            none.undo();
+            DUE.refuses("behind the last one", none, none::undo, ChangeFeed.NOT_POSSIBLE);
+        });
+        undo.end();
+    }
+
+    private static void changeInEachWay(ChangeFeed feed) {
+        for (int which = 0; which < Feeds.CHANGES; which++) {
+            Feeds.change(feed, which);
         }
-        return told.toString();
     }
 
-    private static ChangeFeed started() {
-        ChangeFeed feed = new ChangeFeed();
-        feed.turn(ChangeFeed.SIZE, 2);
-        feed.turn(ChangeFeed.GRACE, 3);
-        feed.reader();
-        feed.set(0, 1);
-        feed.set(0, 2);
-        feed.snapshot();
-        feed.set(1, 1);
-        feed.remove(1);
-        feed.pass(4);
-        feed.set(2, 1);
-        feed.read(0, 2);
-        return feed;
+    private static void save() {
+        Section save = new Section(DUE, "Promise 29: save");
+        save.says("Saves everything", () -> {
+            ChangeFeed feed = Feeds.started();
+            String saved = Feeds.told(feed);
+            feed.save(0);
+            DUE.holds("nothing changes", Feeds.told(feed).equals(saved));
+            changeInEachWay(feed);
+            feed.restore(0);
+            DUE.holds("all of it", Feeds.told(feed).equals(saved));
+        });
+        save.says("except the pad, the history and the slots in a slot", () -> {
+            ChangeFeed feed = new ChangeFeed();
+            feed.put('h');
+            feed.set(0, 1);
+            feed.save(0);
+            DUE.is("it is no change", feed.count(12), 1);
+            feed.set(0, 2);
+            feed.save(1);
+            feed.put(';');
+            feed.set(0, 3);
+            feed.restore(0);
+            DUE.is("the pad", feed.count(11), 2);
+            DUE.is("the history", feed.count(12), 4);
+            DUE.is("the other slot", feed.restore(1), 2);
+            DUE.is("what was saved there later", feed.table(0), 2);
+        });
+        save.says(", and overwrites what was saved there.", () -> {
+            ChangeFeed feed = Feeds.started();
+            feed.save(1);
+            changeInEachWay(feed);
+            String later = Feeds.told(feed);
+            feed.save(1);
+            feed.undo();
+            feed.restore(1);
+            DUE.holds("the later one", Feeds.told(feed).equals(later));
+            ChangeFeed fewer = Feeds.full();
+            fewer.reader();
+            fewer.snapshot();
+            fewer.save(0);
+            ChangeFeed empty = new ChangeFeed();
+            empty.save(0);
+            empty.reader();
+            empty.snapshot();
+            empty.set(0, 1);
+            empty.save(1);
+            empty.restore(0);
+            empty.save(1);
+            empty.set(0, 2);
+            empty.restore(1);
+            DUE.holds("with less than before", Feeds.told(empty).equals(Feeds.told(new ChangeFeed())));
+        });
+        save.says("`slot`: 0 or 1", () -> {
+            ChangeFeed feed = new ChangeFeed();
+            DUE.is("0", feed.save(0), 0);
+            feed.set(0, 1);
+            DUE.is("1", feed.save(1), 1);
+            feed.restore(0);
+            DUE.is("they are apart", feed.count(0), 0);
+        });
+        save.says("Returns how many entries are in the feed", () -> {
+            ChangeFeed full = Feeds.full();
+            DUE.is("sixty", full.save(0), 60);
+            full.thin();
+            DUE.is("twelve", full.save(0), 12);
+            DUE.is("none", new ChangeFeed().save(1), 0);
+        });
+        save.says("BAD_VALUE if there is no such slot.", () -> {
+            ChangeFeed feed = Feeds.started();
+            for (int wrong : Feeds.wrongNumbers(2, 3)) {
+                DUE.refuses("slot " + wrong, feed, () -> feed.save(wrong), ChangeFeed.BAD_VALUE);
+            }
+            DUE.is("nothing is saved by it in 0", feed.restore(0), ChangeFeed.NOT_POSSIBLE);
+            DUE.is("nor in 1", feed.restore(1), ChangeFeed.NOT_POSSIBLE);
+        });
+        save.end();
     }
 
-    private static void change(ChangeFeed feed, int which) {
-        switch (which) {
-            case 0: feed.turn(ChangeFeed.SIZE, 9); break;
-            case 1: feed.turn(ChangeFeed.GRACE, 9); break;
-            case 2: feed.set(3, 3); break;
-            case 3: feed.remove(0); break;
-            case 4: feed.pass(9); break;
-            case 5: feed.thin(); break;
-            case 6: feed.snapshot(); break;
-            case 7: feed.reader(); break;
-            case 8: feed.read(0, 1); break;
-            case 9: feed.confirm(0); break;
-            case 10: feed.goBack(0); break;
-            case 11: feed.beginAnew(0); break;
-            case 12: feed.load(0, 0); break;
-            default: Due.carriedOut(feed, "p0=9;x0;n;r1*2;c1;s;t9;h"); break;
-        }
-    }
-
-    private static void undoEachChange() {
-        for (int which = 0; which < 14; which++) {
-            ChangeFeed feed = started();
-            String before = told(feed);
-            change(feed, which);
-            DUE.holds("28: change " + which + " shows", !told(feed).equals(before));
-            DUE.is("28: undo of change " + which, feed.undo(), 5);
-            DUE.holds("28: change " + which + " is undone", told(feed).equals(before));
-        }
-    }
-
-    private static void undoSixAtMost() {
-        ChangeFeed feed = new ChangeFeed();
-        for (int i = 0; i < 9; i++) {
-            feed.set(0, i);
-            DUE.is("28: undos", feed.count(12), Math.min(i + 1, 6));
-        }
-        DUE.is("28: an error amid a full history", feed.remove(5), ChangeFeed.NOT_POSSIBLE);
-        DUE.is("28: drops nothing", feed.count(12), 6);
-        for (int left = 5; left >= 0; left--) {
-            DUE.is("28: undo", feed.undo(), left);
-            DUE.is("28: the value before", feed.table(0), left + 2);
-            DUE.is("28: the next number before", feed.count(1), left + 3);
-        }
-        DUE.is("28: none left", feed.undo(), ChangeFeed.NOT_POSSIBLE);
-        DUE.is("28: it stays", feed.table(0), 2);
-        DUE.is("28: the number again", feed.set(0, 1), 3);
-    }
-
-    private static void undoAfterUndo() {
-        ChangeFeed feed = new ChangeFeed();
-        feed.set(0, 1);
-        feed.set(0, 2);
-        feed.set(0, 3);
-        feed.undo();
-        feed.set(1, 4);
-        DUE.is("28: the new one", feed.undo(), 2);
-        DUE.is("28: the table of before", feed.table(0), 2);
-        DUE.is("28: then the second one", feed.undo(), 1);
-        DUE.is("28: the table of before that", feed.table(0), 1);
-        feed.remove(5);
-        DUE.is("28: an error records nothing", feed.count(12), 1);
-        feed.turn(ChangeFeed.SIZE, 5);
-        DUE.is("28: the same setting records", feed.count(12), 2);
-        feed.thin();
-        DUE.is("28: a thinning of nothing records", feed.count(12), 3);
-    }
-
-    private static void undoKeepsPadAndSlots() {
-        ChangeFeed feed = new ChangeFeed();
-        feed.set(0, 1);
-        feed.set(0, 2);
-        feed.save(0);
-        feed.put('h');
-        feed.undo();
-        DUE.is("28: the pad", feed.count(11), 1);
-        DUE.is("28: the slot", feed.restore(0), 2);
-        DUE.is("28: what was saved", feed.table(0), 2);
-    }
-
-    private static void saveAndRestore() {
-        ChangeFeed feed = started();
-        String saved = told(feed);
-        DUE.is("29: entries", feed.save(0), 5);
-        DUE.is("29: undos", feed.count(12), 6);
-        for (int which = 0; which < 14; which++) {
-            change(feed, which);
-        }
-        int here = feed.count(0);
-        String other = told(feed);
-        DUE.is("29: the other slot", feed.save(1), here);
-        feed.put('h');
-        DUE.is("30: entries then", feed.restore(0), 5);
-        DUE.holds("30: as it was", told(feed).equals(saved));
-        DUE.is("30: the pad stays", feed.count(11), 1);
-        DUE.is("30: the other one", feed.restore(1), here);
-        DUE.holds("30: as it was there", told(feed).equals(other));
-        DUE.is("30: kept", feed.restore(0), 5);
-        feed.set(0, 77);
-        DUE.is("29: overwritten", feed.save(0), 6);
-        DUE.is("30: the one that was saved last", feed.restore(0) * 1000 + feed.table(0), 6077);
-    }
-
-    private static void restoreIsAChange() {
-        ChangeFeed feed = new ChangeFeed();
-        feed.save(1);
-        feed.set(0, 1);
-        DUE.is("29: no change", feed.count(12), 1);
-        DUE.is("30: nothing then", feed.restore(1), 0);
-        DUE.is("30: a change", feed.count(12), 2);
-        DUE.is("30: table", feed.table(0), ChangeFeed.NONE);
-        DUE.is("30: undone", feed.undo(), 1);
-        DUE.is("30: table before", feed.table(0), 1);
-        DUE.is("30: of no slot", feed.restore(0), ChangeFeed.NOT_POSSIBLE);
-        DUE.is("30: that is no change", feed.count(12), 1);
-    }
-
-    private static void slotsAreCopies() {
-        ChangeFeed feed = new ChangeFeed();
-        feed.reader();
-        feed.set(0, 1);
-        feed.snapshot();
-        feed.save(0);
-        feed.restore(0);
-        feed.set(0, 2);
-        feed.read(0, 2);
-        feed.confirm(0);
-        feed.snapshot();
-        feed.restore(0);
-        DUE.is("30: table", feed.table(0), 1);
-        DUE.is("30: reader", feed.ofReader(0, 0) + feed.ofReader(0, 1) + feed.ofReader(0, 4), 0);
-        DUE.is("30: view", feed.view(0, 0), ChangeFeed.NONE);
-        DUE.is("30: snapshots", feed.count(8) * 10 + feed.ofSnapshot(0, 0), 11);
-    }
-
-    private static void wrongSlots() {
-        ChangeFeed feed = new ChangeFeed();
-        for (int wrong : Due.wrongNumbers(2)) {
-            DUE.is("29: slot " + wrong, feed.save(wrong), ChangeFeed.BAD_VALUE);
-            DUE.is("30: slot " + wrong, feed.restore(wrong), ChangeFeed.BAD_VALUE);
-        }
+    private static void restore() {
+        Section restore = new Section(DUE, "Promise 30: restore");
+        restore.says("Restores what was saved last in a slot", () -> {
+            ChangeFeed feed = Feeds.started();
+            String first = Feeds.told(feed);
+            feed.save(0);
+            changeInEachWay(feed);
+            String second = Feeds.told(feed);
+            feed.save(1);
+            feed.put('h');
+            feed.restore(0);
+            DUE.holds("of slot 0", Feeds.told(feed).equals(first));
+            feed.restore(1);
+            DUE.holds("of slot 1", Feeds.told(feed).equals(second));
+            DUE.is("the pad stays", feed.count(11), 1);
+            ChangeFeed again = new ChangeFeed();
+            again.save(0);
+            again.set(0, 1);
+            again.restore(0);
+            DUE.is("the next number, too", again.set(0, 2), 0);
+        });
+        restore.says(", which keeps it.", () -> {
+            ChangeFeed feed = Feeds.started();
+            String saved = Feeds.told(feed);
+            feed.save(0);
+            for (int i = 0; i < 3; i++) {
+                changeInEachWay(feed);
+                feed.restore(0);
+                DUE.holds("as it was", Feeds.told(feed).equals(saved));
+            }
+        });
+        restore.says("This is a change.", () -> {
+            ChangeFeed feed = new ChangeFeed();
+            feed.save(1);
+            feed.set(0, 1);
+            DUE.isAChange("to the empty feed", feed, () -> feed.restore(1));
+            ChangeFeed full = Feeds.started();
+            full.save(0);
+            full.set(0, 5);
+            DUE.isAChange("in a full history", full, () -> full.restore(0));
+        });
+        restore.says("`slot`: 0 or 1", () -> {
+            ChangeFeed feed = new ChangeFeed();
+            feed.set(0, 7);
+            feed.save(0);
+            feed.set(0, 8);
+            feed.save(1);
+            feed.restore(0);
+            DUE.is("0", feed.table(0), 7);
+            feed.restore(1);
+            DUE.is("1", feed.table(0), 8);
+        });
+        restore.says("Returns how many entries are in the feed then", () -> {
+            ChangeFeed feed = new ChangeFeed();
+            feed.save(0);
+            feed.set(0, 1);
+            feed.set(0, 2);
+            feed.save(1);
+            DUE.is("none", feed.restore(0), 0);
+            DUE.is("two", feed.restore(1), 2);
+            ChangeFeed full = Feeds.full();
+            full.save(0);
+            full.thin();
+            DUE.is("sixty", full.restore(0), 60);
+        });
+        restore.says("BAD_VALUE if there is no such slot", () -> {
+            ChangeFeed feed = Feeds.started();
+            feed.save(0);
+            feed.save(1);
+            for (int wrong : Feeds.wrongNumbers(2, 3)) {
+                DUE.refuses("slot " + wrong, feed, () -> feed.restore(wrong), ChangeFeed.BAD_VALUE);
+            }
+        });
+        restore.says("NOT_POSSIBLE if nothing was saved in it.", () -> {
+            ChangeFeed feed = Feeds.started();
+            DUE.refuses("slot 0", feed, () -> feed.restore(0), ChangeFeed.NOT_POSSIBLE);
+            DUE.refuses("slot 1", feed, () -> feed.restore(1), ChangeFeed.NOT_POSSIBLE);
+            feed.save(0);
+            DUE.refuses("only the other one is saved", feed, () -> feed.restore(1), ChangeFeed.NOT_POSSIBLE);
+            feed.undo();
+            DUE.holds("undo empties no slot", feed.restore(0) >= 0);
+        });
+        restore.end();
     }
 }
