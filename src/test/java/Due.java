@@ -37,11 +37,16 @@ final class Due {
         is(what, holds ? 1 : 0, 1);
     }
 
-    /** The call gives this error, and nothing at all is another thing behind it. */
-    void refuses(String what, ChangeFeed feed, IntSupplier call, int error) {
+    /** The call answers this, and nothing at all is another thing behind it. */
+    void onlyTells(String what, ChangeFeed feed, IntSupplier call, int want) {
         String before = Feeds.everything(feed);
-        is(what, call.getAsInt(), error);
+        is(what, call.getAsInt(), want);
         holds("nothing changes by: " + what, Feeds.everything(feed).equals(before));
+    }
+
+    /** The call gives this error, and so changes nothing. */
+    void refuses(String what, ChangeFeed feed, IntSupplier call, int error) {
+        onlyTells(what, feed, call, error);
     }
 
     /** The call records one state, and undo brings that one back. */
@@ -52,11 +57,6 @@ final class Due {
         is("undos behind: " + what, feed.count(12), Math.min(undos + 1, 6));
         is("undo of: " + what, feed.undo(), Math.min(undos, 5));
         holds("as it was before: " + what, Feeds.told(feed).equals(before));
-    }
-
-    /** The call answers this, and nothing at all is another thing behind it. */
-    void onlyTells(String what, ChangeFeed feed, IntSupplier call, int want) {
-        refuses(what, feed, call, want);
     }
 
     void end() {

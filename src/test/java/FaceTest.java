@@ -1,25 +1,22 @@
+import com.sun.management.ThreadMXBean;
 import java.io.IOException;
+import java.lang.management.ManagementFactory;
 import java.lang.reflect.Constructor;
 import java.lang.reflect.Field;
 import java.lang.reflect.Method;
 import java.lang.reflect.Modifier;
 import java.nio.file.Files;
 import java.nio.file.Path;
-import java.util.Arrays;
 import java.util.TreeSet;
+import java.util.regex.Matcher;
+import java.util.regex.Pattern;
 
 /** The face of the document, and what of LANGUAGE.md a look at the class and at its text can tell. */
 public final class FaceTest {
     private static final Due DUE = new Due("FaceTest");
 
-    private static final String[] FACE = {
-        "beginAnew(int)", "carryOut()", "confirm(int)", "count(int)", "entry(int,int)", "fault()", "gentlest()",
-        "goBack(int)", "lateIn(int)", "leftIn(int)", "load(int,int)", "ofReader(int,int)", "ofSnapshot(int,int)",
-        "pass(int)", "put(long)", "read(int,int)", "reader()", "remove(int)", "restore(int)", "save(int)",
-        "set(int,int)", "shortest(int,int)", "snapshot()", "table(int)", "thin()", "turn(int,int)", "undo()",
-        "view(int,int)", "wipe()"};
-    private static final String[] CONSTANTS = {
-        "BAD_TEXT=-3", "BAD_VALUE=-2", "GRACE=1", "NONE=-6", "NOT_POSSIBLE=-5", "NO_SUCH=-1", "SIZE=0", "TOO_MANY=-4"};
+    /** Enough calls for a machine that makes something now and then to be done with it. */
+    private static final int ROUNDS = 200;
 
     public static void main(String[] args) throws Exception {
         methods();
@@ -27,10 +24,25 @@ public final class FaceTest {
         constructors();
         classesInside();
         text();
+        callsMakeNothing();
         DUE.end();
     }
 
-    private static void methods() {
+    /** What the document's face has behind each of these words, without the names of parameters. */
+    private static TreeSet<String> faceOfDocument(String pattern) throws IOException {
+        String document = Files.readString(Path.of("../shared/DOC.md"));
+        String face = document.substring(document.indexOf("```java"), document.indexOf("## Terms"));
+        Matcher found = Pattern.compile(pattern).matcher(face);
+        TreeSet<String> all = new TreeSet<>();
+        while (found.find()) {
+            for (String one : found.group(1).split("(?<=[0-9]), ")) {
+                all.add(one.replace(" = ", "=").replaceAll("(int|long) [a-z]+", "$1").replace(", ", ","));
+            }
+        }
+        return all;
+    }
+
+    private static void methods() throws IOException {
         TreeSet<String> shown = new TreeSet<>();
         TreeSet<String> publicNames = new TreeSet<>();
         for (Method method : ChangeFeed.class.getDeclaredMethods()) {
@@ -45,14 +57,16 @@ public final class FaceTest {
                 DUE.holds("type of " + method.getName(), method.getReturnType() == int.class);
             }
         }
-        DUE.holds("the methods " + shown, shown.equals(new TreeSet<>(Arrays.asList(FACE))));
+        TreeSet<String> face = faceOfDocument("public int (\\w+\\([^)]*\\));");
+        DUE.is("methods of the document", face.size(), 29);
+        DUE.holds("the methods " + shown + " and not " + face, shown.equals(face));
         for (Method method : ChangeFeed.class.getDeclaredMethods()) {
             DUE.holds("no private method has a public one's name: " + method.getName(),
                 !Modifier.isPrivate(method.getModifiers()) || !publicNames.contains(method.getName()));
         }
     }
 
-    private static void constants() throws IllegalAccessException {
+    private static void constants() throws IllegalAccessException, IOException {
         TreeSet<String> shown = new TreeSet<>();
         for (Field field : ChangeFeed.class.getDeclaredFields()) {
             if (!Modifier.isPrivate(field.getModifiers())) {
@@ -61,7 +75,9 @@ public final class FaceTest {
                 shown.add(field.getName() + "=" + field.getInt(null));
             }
         }
-        DUE.holds("the constants " + shown, shown.equals(new TreeSet<>(Arrays.asList(CONSTANTS))));
+        TreeSet<String> face = faceOfDocument("public static final int ([^;]*);");
+        DUE.is("constants of the document", face.size(), 8);
+        DUE.holds("the constants " + shown + " and not " + face, shown.equals(face));
     }
 
     private static void constructors() {
@@ -98,5 +114,36 @@ public final class FaceTest {
         }
         DUE.holds("no lambda and no method reference", !code.contains("->") && !code.contains("::"));
         DUE.holds("characters of ASCII", text.chars().allMatch(sign -> sign == '\n' || sign >= 32 && sign < 127));
+    }
+
+    /** All that a feed needs is made with it: no call makes an object or an array. */
+    private static void callsMakeNothing() {
+        ThreadMXBean threads = (ThreadMXBean) ManagementFactory.getThreadMXBean();
+        if (!threads.isThreadAllocatedMemorySupported() || !threads.isThreadAllocatedMemoryEnabled()) {
+            return;
+        }
+        ChangeFeed feed = Feeds.started();
+        long text = Feeds.packed("p1=2;r0*");
+        for (int i = 0; i < ROUNDS; i++) {
+            allCalls(feed, text);
+        }
+        long before = threads.getCurrentThreadAllocatedBytes();
+        for (int i = 0; i < ROUNDS; i++) {
+            allCalls(feed, text);
+        }
+        long made = threads.getCurrentThreadAllocatedBytes() - before;
+        DUE.holds("bytes made by " + ROUNDS + " rounds of all calls: " + made, made < ROUNDS * 16L);
+    }
+
+    private static int allCalls(ChangeFeed feed, long text) {
+        feed.wipe();
+        feed.put(text);
+        feed.put('9');
+        int answers = feed.save(0) + feed.turn(0, 2) + feed.set(0, 1) + feed.remove(0) + feed.pass(1) + feed.thin()
+            + feed.snapshot() + feed.reader() + feed.read(0, 9) + feed.confirm(0) + feed.goBack(0) + feed.load(0, 0)
+            + feed.beginAnew(0) + feed.table(0) + feed.view(0, 0) + feed.entry(0, 4) + feed.ofReader(0, 5)
+            + feed.ofSnapshot(0, 1) + feed.count(7) + feed.leftIn(5) + feed.lateIn(5) + feed.shortest(0, 0)
+            + feed.gentlest() + feed.fault() + feed.carryOut() + feed.undo();
+        return answers + feed.restore(0);
     }
 }

@@ -53,6 +53,17 @@ public final class ReadersTest {
             feed.reader();
             DUE.is("another one has a place of its own", feed.ofReader(1, 0), 0);
             DUE.is("the first one stays where it is", feed.ofReader(0, 0), 1);
+            ChangeFeed again = new ChangeFeed();
+            again.save(0);
+            again.reader();
+            again.set(0, 1);
+            again.read(0, 1);
+            again.confirm(0);
+            again.restore(0);
+            DUE.is("after a restore", again.reader(), 0);
+            DUE.is("nothing of the former one", again.ofReader(0, 0) + again.ofReader(0, 1) + again.ofReader(0, 4), 0);
+            again.goBack(0);
+            DUE.is("nor in its view", again.view(0, 0), ChangeFeed.NONE);
         });
         reader.says("This is a change.", () -> {
             ChangeFeed feed = new ChangeFeed();
@@ -77,23 +88,6 @@ public final class ReadersTest {
             DUE.is("the sixth is undone", feed.reader(), 5);
         });
         reader.end();
-        readerWithAFormerNumber();
-    }
-
-    private static void readerWithAFormerNumber() {
-        DUE.by("a reader that comes after an undone one has nothing of it: ");
-        ChangeFeed again = new ChangeFeed();
-        again.save(0);
-        again.reader();
-        again.set(0, 1);
-        again.read(0, 1);
-        again.confirm(0);
-        again.restore(0);
-        DUE.is("number", again.reader(), 0);
-        DUE.is("places and entries read", again.ofReader(0, 0) + again.ofReader(0, 1) + again.ofReader(0, 4), 0);
-        DUE.is("view", again.view(0, 0), ChangeFeed.NONE);
-        again.goBack(0);
-        DUE.is("confirmed view", again.view(0, 0), ChangeFeed.NONE);
     }
 
     private static ChangeFeed withFour() {

@@ -176,7 +176,7 @@ public final class TermsTest {
         for (int i = 0; i < 100; i++) {
             feed.pass(999);
         }
-        for (int i = 0; feed.count(0) < 60; i++) {
+        for (int i = 0; i < 59; i++) {
             feed.set(i % 2 + 1, i);
         }
         feed.save(1);
@@ -382,6 +382,15 @@ public final class TermsTest {
                 DUE.is("key " + key, feed.view(1, key), ChangeFeed.NONE);
             }
             DUE.is("back", feed.goBack(1), 0);
+            ChangeFeed undone = new ChangeFeed();
+            Feeds.carriedOut(undone, "n;p0=1;r0*1;c0");
+            undone.undo();
+            undone.set(0, 1);
+            undone.reader();
+            int[] due = {0, 0, 1, 0, 0, 1, 1};
+            for (int what = 0; what < due.length; what++) {
+                DUE.is("nothing of one that is undone, what " + what, undone.ofReader(0, what), due[what]);
+            }
         });
     }
 
@@ -498,6 +507,9 @@ public final class TermsTest {
             both.pass(21);
             both.thin();
             DUE.is("of both at once", both.count(4), 4);
+            ChangeFeed again = removalSetAgain();
+            again.thin();
+            DUE.is("not of an old removal that goes for a later entry", again.count(4), 0);
         });
         terms.says(", if that is greater than it.", () -> {
             ChangeFeed feed = removedTwice();
@@ -515,9 +527,6 @@ public final class TermsTest {
             feed.pass(21);
             feed.thin();
             DUE.is("one that goes does", feed.count(4), 7);
-            ChangeFeed again = removalSetAgain();
-            again.thin();
-            DUE.is("nor one that goes for a later entry", again.count(4), 0);
         });
     }
 
